@@ -132,6 +132,9 @@ public final class LanguageTests {
         while (methods.find()) {
             found++;
             hold(methods.group(2).split("\n").length <= 60, "short: " + methods.group());
+            // All calls of a run live in one room: what is needed is made with the object.
+            boolean makes = methods.group(2).contains("new ") || methods.group(2).contains("clone(");
+            hold(!makes || methods.group().contains("public BrideShoes()"), "makes nothing: " + methods.group());
         }
         hold(found > 80, "the methods are found: " + found);
     }

@@ -1,8 +1,5 @@
 /** For each promise: ordinary inputs, the edges that the document names, wrong inputs. */
-public final class PromiseTests {
-    private static final int BAD = -1, NOT = -2, FULL = -3, NONE = -4, NULL = -11, CAST = -12, INDEX = -13, SIZE = -14;
-    private static int wrong = 0;
-
+public final class PromiseTests extends Checks {
     public static void main(String[] args) {
         newObject();
         bride();
@@ -32,43 +29,7 @@ public final class PromiseTests {
         drop();
         item();
         copy();
-        System.out.println(wrong == 0 ? "all promises stand" : wrong + " answers are not as due");
-        if (wrong != 0) {
-            System.exit(1);
-        }
-    }
-
-    private static void due(String call, int got, int want) {
-        if (got != want) {
-            wrong++;
-            System.out.println(call + " answered " + got + ", due is " + want);
-        }
-    }
-
-    private static void typed(BrideShoes x, String text) {
-        int before = 0;
-        for (int i = 0; i < text.length(); i += 8) {
-            String part = text.substring(i, Math.min(text.length(), i + 8));
-            long w = 0;
-            for (int j = 0; j < part.length(); j++) {
-                w = w << 8 | part.charAt(j);
-            }
-            before += part.length();
-            due("type of " + text, x.type(w, part.length()), before);
-        }
-    }
-
-    private static BrideShoes of(String brides, String heap) {
-        BrideShoes x = new BrideShoes();
-        if (!brides.isEmpty()) {
-            typed(x, brides);
-            due("brides " + brides, x.brides(), brides.split(",").length);
-        }
-        if (!heap.isEmpty()) {
-            typed(x, heap);
-            due("heap " + heap, x.heap(), heap.split(",").length);
-        }
-        return x;
+        end("all promises stand");
     }
 
     private static void bridesDue(String text, int want) {
@@ -99,13 +60,6 @@ public final class PromiseTests {
         }
         due("tape is empty after '" + text + "'", x.type('x', 1), 1);
         due("brides stay after '" + text + "'", x.count(0), 1);
-    }
-
-    private static void filled(BrideShoes x, int sheet, int lane, int... items) {
-        due("sheet", x.sheet(sheet, lane, items.length), items.length);
-        for (int i = 0; i < items.length; i++) {
-            due("item", x.item(sheet, lane, i, items[i]), 1);
-        }
     }
 
     private static void newObject() {
@@ -341,13 +295,9 @@ public final class PromiseTests {
         due("BAD ahead of FULL", x.type(0x1F, 1), BAD);
         due("all blank, the end", x.heap(), -140);
         typed(x, "l4");
-        typed2(x);
+        typedBehind(x, 2, "5");
         due("the highest first, behind what was", x.heap(), 1);
         due("l45", x.told(0, 1), 45);
-    }
-
-    private static void typed2(BrideShoes x) {
-        due("behind", x.type(0x35, 1), 3);
     }
 
     private static void brides() {
