@@ -1046,10 +1046,10 @@ public final class PromiseEdgeTests extends Sentences {
     private static void firmRanks() {
         for (int lane = 0; lane < 3; lane++) {
             BrideShoes x = new BrideShoes();
-            // Brides' rows 01, 01, grooms' rows 10, 10; one item ahead, one behind.
-            filled(x, 2, lane, 5, 0, 1, 0, 1, 1, 0, 1, 0, 5);
-            due("from 1 on, bride 0", x.firm(2, lane, 1, 2, 0), 1);
-            due("from 1 on, bride 1", x.firm(2, lane, 1, 2, 1), 0);
+            // Brides' rows 01, 10, grooms' rows 10, 01; one item ahead, one behind.
+            filled(x, 2, lane, 5, 0, 1, 1, 0, 1, 0, 0, 1, 5);
+            due("from 1 on, bride 0", x.firm(2, lane, 1, 2, 0), 0);
+            due("from 1 on, bride 1", x.firm(2, lane, 1, 2, 1), 1);
             due("from 0 on", x.firm(2, lane, 0, 2, 0), NOT);
             due("from 2 on", x.firm(2, lane, 2, 2, 0), NOT);
         }

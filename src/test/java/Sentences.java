@@ -45,7 +45,11 @@ abstract class Sentences extends Checks {
             tested[part][i] = true;
         }
         int before = askedSoFar();
-        test.run();
+        try {
+            test.run();
+        } catch (RuntimeException e) {
+            fault("a call threw " + e);
+        }
         if (askedSoFar() == before) {
             fault("the test asks nothing");
         }

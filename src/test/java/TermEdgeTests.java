@@ -913,6 +913,8 @@ public final class TermEdgeTests extends Sentences {
         due("no shoes", of("40/40", "").most(0), 0);
         BrideShoes x = of("40/40,42/42,44/44", "l42,l42,l20");
         due("two of three", x.most(0), 2);
+        due("both, though 0 could have the one that 1 must have", of("42/42,40/40", "l42,l44").most(0), 2);
+        due("the other way about", of("44/44,42/42", "l44,l46,l48").most(0), 2);
         BrideShoes y = of("40/40,42/42", "l42,l39");
         due("both, whatever is asked", y.most(0), 2);
         y.set(OUT, 0);
@@ -951,12 +953,15 @@ public final class TermEdgeTests extends Sentences {
     }
 
     private static void limpsAt() {
-        BrideShoes x = of("40/50s4h8", "l45,r45,l30");
+        BrideShoes x = of("40/50s4h8", "l45,r45,l39,l30");
         due("left", x.limps(0, 0, 0), 3);
         due("right", x.limps(0, 1, 0), -5);
         due("at that hour, not at hers", x.limps(0, 0, 11), -6);
-        x.set(OUT, 6);
-        due("not let out", x.limps(0, 2, 0), -10);
+        for (int out = 0; out <= 6; out++) {
+            x.set(OUT, out);
+            due("not let out, though it could be by " + out, x.limps(0, 2, 0), -1);
+            due("not let out by " + out, x.limps(0, 3, 0), -10);
+        }
     }
 
     private static void limpsAbove() {
