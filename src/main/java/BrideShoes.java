@@ -484,32 +484,23 @@ public final class BrideShoes {
         }
 
         int readBrides() {
-            place = 0;
-            for (int i = 0; i < MOST_BRIDES; i++) {
-                if (!readBride(rows[i])) {
-                    return FAULT - place;
-                }
-                if (next() == END) {
-                    return i + 1;
-                }
-                if (i == MOST_BRIDES - 1 || !isPassed(',')) {
-                    return FAULT - place;
-                }
-            }
-            return FAULT - place;
+            return read(false, MOST_BRIDES);
         }
 
         int readHeap() {
+            return read(true, MOST_SHOES);
+        }
+
+        int read(boolean isHeap, int most) {
             place = 0;
-            for (int i = 0; i < MOST_SHOES; i++) {
-                if (!readShoe(rows[i])) {
-                    return FAULT - place;
-                }
-                if (next() == END) {
+            for (int i = 0; i < most; i++) {
+                boolean isRead = isHeap ? readShoe(rows[i]) : readBride(rows[i]);
+                if (isRead && next() == END) {
                     return i + 1;
                 }
-                if (i == MOST_SHOES - 1 || !isPassed(',')) {
-                    return FAULT - place;
+                // Behind the last one that there may be not even a , can stand.
+                if (!isRead || i == most - 1 || !isPassed(',')) {
+                    break;
                 }
             }
             return FAULT - place;
